@@ -510,11 +510,12 @@ public final class CurveShares {
     }
 
     private boolean isRoomReady(int curve, int sum) {
-        if (!isFitting(curve, sum)) {
+        int[] row = now.row(SUMS, sum);
+        if (row == null || !isFitting(curve, sum)) {
             return false;
         }
         if (workingSum != sum) {
-            space.load(working, now.row(SUMS, sum));
+            space.load(working, row);
             workingSum = sum;
             codeReady = false;
         }
@@ -574,6 +575,9 @@ public final class CurveShares {
         }
 
         static int degreeOf(int[] row) {
+            if (row == null) {
+                return 0;
+            }
             int degree = row[1];
             for (int i = 0; i < row[0] && i < MOST_ENTRIES; i++) {
                 degree += row[ENTRIES_AT + ENTRY_WIDTH * i + 2];
@@ -872,7 +876,8 @@ public final class CurveShares {
 
     /** A polynomial of a small degree; degree NONE tells 0. */
     private static final class Poly {
-        private static final int WIDTH = 16;
+        /* NORM's degree is the greatest that comes, 9. */
+        private static final int WIDTH = 10;
         int degree = NONE;
         private final int[] parts = new int[WIDTH];
 
@@ -923,7 +928,7 @@ public final class CurveShares {
 
         /** The product of two others: neither may be this one. */
         void product(Field field, Poly one, Poly two) {
-            clear();
+            Arrays.fill(parts, 0);
             for (int i = 0; i <= one.degree; i++) {
                 for (int j = 0; j <= two.degree && i + j < WIDTH; j++) {
                     parts[i + j] = field.rem(parts[i + j] + one.parts[i] * two.parts[j]);
@@ -941,7 +946,8 @@ public final class CurveShares {
 
         /** This one becomes the rest; a divisor 0 leaves it as it is. */
         void divide(Field field, Poly by, Poly quotient) {
-            quotient.clear();
+            Arrays.fill(quotient.parts, 0);
+            quotient.degree = NONE;
             int below = by.degree;
             if (below < 0) {
                 return;
@@ -1494,7 +1500,7 @@ public final class CurveShares {
         private int dimension;
         private final int[] pointOf = new int[PLACE_ROOM];
         private final int[][] values = new int[BASE_ROOM][PLACE_ROOM];
-        private final int[] powers = new int[POLE_ROOM];
+        private final int[][] powers = new int[PLACE_ROOM][POLE_ROOM];
         private final int[][] basis = new int[PLACE_ROOM][PLACE_ROOM];
         private final int[] leads = new int[PLACE_ROOM];
         private final int[] drawn = new int[PLACE_ROOM];
@@ -1512,7 +1518,10 @@ public final class CurveShares {
                 }
             }
             for (int place = 0; place < length; place++) {
-                takeValues(curve, room, place);
+                takePowers(curve, room, place);
+            }
+            for (int k = 0; k < dimension; k++) {
+                takeValues(curve.field, room, k);
             }
             findBasis(curve.field);
             size = 1;
@@ -1626,8 +1635,8 @@ public final class CurveShares {
             }
         }
 
-        /** The values of all BASE rows at one place. */
-        private void takeValues(Curve curve, Room room, int place) {
+        /** The values of all powers x and x * y, by E, at one place. */
+        private void takePowers(Curve curve, Room room, int place) {
             Field field = curve.field;
             int x = curve.xs[pointOf[place]];
             int y = curve.ys[pointOf[place]];
@@ -1636,21 +1645,30 @@ public final class CurveShares {
                 under = field.rem(under * x + room.under[i]);
             }
             int power = field.inverse(under);
-            Arrays.fill(powers, 0);
+            int[] here = powers[place];
+            Arrays.fill(here, 0);
             for (int i = 0; 2 * i <= room.poles; i++) {
-                powers[2 * i] = power;
+                here[2 * i] = power;
                 int columnB = 2 * i + 2 * curve.genus + 1;
                 if (columnB <= room.poles) {
-                    powers[columnB] = field.rem(power * y);
+                    here[columnB] = field.rem(power * y);
                 }
                 power = field.rem(power * x);
             }
-            for (int k = 0; k < dimension; k++) {
-                int value = 0;
-                for (int column = 0; column <= room.poles; column++) {
-                    value += powers[column] * room.coefficient(field, k, column);
+        }
+
+        /** The values of one BASE row at all places. */
+        private void takeValues(Field field, Room room, int k) {
+            int[] row = values[k];
+            Arrays.fill(row, 0);
+            for (int column = 0; column <= room.poles; column++) {
+                int coefficient = room.coefficient(field, k, column);
+                for (int place = 0; place < length && coefficient != 0; place++) {
+                    row[place] += coefficient * powers[place][column];
                 }
-                values[k][place] = field.rem(value);
+            }
+            for (int place = 0; place < length; place++) {
+                row[place] = field.rem(row[place]);
             }
         }
 
@@ -1887,26 +1905,36 @@ public final class CurveShares {
             listed = true;
         }
 
+        /** For each U of degree 2 the V whose square is F, where x * x = -u0 - u1 * x. */
         private void listGreater() {
             int p = field.p;
-            for (int u = 0; u < p * p; u++) {
-                int u0 = u / p;
-                int u1 = u % p;
-                made.u.clear();
-                made.u.put(2, 1);
-                made.u.put(1, u1);
-                made.u.put(0, u0);
-                scratch.copy(f);
-                scratch.divide(field, made.u, quotient);
-                for (int v = 0; v < p * p; v++) {
-                    int v0 = v / p;
-                    int v1 = v % p;
-                    // V * V with x * x = -u0 - u1 * x
-                    int square0 = field.rem(v0 * v0 - v1 * v1 * u0);
-                    int square1 = field.rem(2 * v0 * v1 - v1 * v1 * u1);
-                    if (square0 == scratch.at(0) && square1 == scratch.at(1)) {
-                        keep(1 + p * p + u * p * p + v);
-                    }
+            made.u.clear();
+            made.u.put(2, 1);
+            for (int u0 = 0; u0 < p; u0++) {
+                for (int u1 = 0; u1 < p; u1++) {
+                    made.u.put(1, u1);
+                    made.u.put(0, u0);
+                    scratch.copy(f);
+                    scratch.divide(field, made.u, quotient);
+                    keepRoots(u0, u1, scratch.at(0), scratch.at(1));
+                }
+            }
+        }
+
+        /** V * V = f0 + f1 * x: if v1 is not 0, the part of x tells v0. */
+        private void keepRoots(int u0, int u1, int f0, int f1) {
+            int p = field.p;
+            int firstKey = 1 + p * p + (u0 * p + u1) * p * p;
+            for (int v0 = 0; v0 < p && f1 == 0; v0++) {
+                if (field.rem(v0 * v0) == f0) {
+                    keep(firstKey + v0);
+                }
+            }
+            for (int v1 = 1; v1 < p; v1++) {
+                int square = field.rem(v1 * v1);
+                int v0 = field.rem((f1 + square * u1) * field.inverse(field.rem(2 * v1)));
+                if (field.rem(v0 * v0 - square * u0) == f0) {
+                    keep(firstKey + v1 * p + v0);
                 }
             }
         }
@@ -1951,8 +1979,8 @@ public final class CurveShares {
             out.u.put(2, 1);
             out.u.put(1, left / square % p);
             out.u.put(0, left / square / p);
-            out.v.put(1, left % p);
-            out.v.put(0, left % square / p);
+            out.v.put(1, left % square / p);
+            out.v.put(0, left % p);
         }
 
         private int keyOf(Pair pair) {
@@ -1964,7 +1992,7 @@ public final class CurveShares {
                 return 1 + pair.u.at(0) * p + pair.v.at(0);
             }
             int u = pair.u.at(0) * p + pair.u.at(1);
-            return 1 + p * p + u * p * p + pair.v.at(0) * p + pair.v.at(1);
+            return 1 + p * p + u * p * p + pair.v.at(1) * p + pair.v.at(0);
         }
 
         /** The keys were kept in their order. */
