@@ -838,8 +838,10 @@ public final class CurveShares {
                 return false;
             }
             p = prime;
-            Arrays.fill(inverses, 0);
-            Arrays.fill(squares, false);
+            for (int a = 0; a < PRIME_ROOM; a++) {
+                inverses[a] = 0;
+                squares[a] = false;
+            }
             for (int a = 0; a < p; a++) {
                 squares[rem(a * a)] = true;
                 for (int b = 0; b < p; b++) {
@@ -1378,7 +1380,9 @@ public final class CurveShares {
 
         private void gather(Curve curve, int[] row) {
             Arrays.fill(often, 0);
-            Arrays.fill(named, false);
+            for (int x = 0; x < PRIME_ROOM; x++) {
+                named[x] = false;
+            }
             for (int i = 0; i < row[0] && i < MOST_ENTRIES; i++) {
                 int at = ENTRIES_AT + ENTRY_WIDTH * i;
                 int k = curve.pointAt(row[at], row[at + 1]);
