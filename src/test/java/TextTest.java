@@ -66,6 +66,21 @@ public final class TextTest {
         x.end(21);
         DUE.same("text of two parts", x.text(2, -1), 0);
         DUE.same("its coefficient", x.function(0, false, 1), 2);
+        cutOff(x, "far 12; ", 5, 1, 5);
+        cutOff(x, "farther", 3, 1, 3);
+        cutOff(x, "far   1;", 4, 1, 4);
+        cutOff(x, "far 10;;", 5, 1, 5);
+        cutOff(x, "far 1;at", 6, 0, -1);
+        cutOff(x, "far 1;  ;", 7, 0, -1);
+    }
+
+    /** What stood behind the end is gone. */
+    private static void cutOff(CurveShares x, String text, int n, int fault, int place) {
+        Due.put(x, text);
+        x.end(n);
+        x.text(1, x.count(1) == 0 ? -1 : 0);
+        DUE.same("fault of " + text + " cut", x.fault(0), fault);
+        DUE.same("place of " + text + " cut", x.fault(1), place);
     }
 
     private static void refusals() {
@@ -162,6 +177,13 @@ public final class TextTest {
         fault(2, "x1 1;y1 1;", 0, -1);
         fault(2, "xy 1 1;", 1, 0);
         fault(2, "X 1 1;", 1, 0);
+        fault(2, "xa 1 1;", 1, 0);
+        fault(2, "xz 1 1;", 1, 0);
+        fault(2, "x` 1 1;", 1, 1);
+        fault(2, "x{ 1 1;", 1, 1);
+        fault(2, "x 0 9;", 0, -1);
+        fault(2, "x 0 /;", 1, 4);
+        fault(2, "x 0 :;", 1, 4);
     }
 
     private static void randomTexts() {
