@@ -96,6 +96,9 @@ public final class CurveShares {
     }
 
     public int text(int sort, int at) {
+        int length = now.length;
+        // The tape is taken before anything is refused: it is empty behind every answer.
+        now.length = 0;
         now.fault = 0;
         now.faultPlace = NONE;
         if (sort < 0 || sort >= SORTS) {
@@ -105,9 +108,7 @@ public final class CurveShares {
         if (further ? now.counts[sort] >= MOST_OF_SORT[sort] : now.row(sort, at) == null) {
             return REFUSED;
         }
-        int length = now.length;
         reader.read(sort, length);
-        now.length = 0;
         now.fault = reader.fault;
         now.faultPlace = reader.faultPlace;
         if (now.fault == 0 && sort == CURVES && !isSound(reader.row)) {

@@ -84,31 +84,49 @@ public final class TextTest {
     }
 
     private static void refusals() {
-        CurveShares x = new CurveShares();
         int[] most = {2, 3, 3};
         for (int sort = 0; sort < 3; sort++) {
-            DUE.same("in the place of none", x.text(sort, 0), -2);
+            CurveShares x = new CurveShares();
+            refused(x, "in the place of none", sort, 0);
             for (int k = 0; k < most[sort]; k++) {
                 DUE.same("further", Due.tell(x, sort, -1, ""), k);
                 DUE.same("count", x.count(sort), k + 1);
                 DUE.same("in its place", Due.tell(x, sort, k, " \n"), k);
-                DUE.same("in the place behind", x.text(sort, k + 1), -2);
+                refused(x, "in the place behind", sort, k + 1);
             }
-            Due.tell(x, sort, 0, "?");
-            DUE.same("a fault", x.fault(0), 1);
-            Due.put(x, ";");
-            DUE.same("too many", x.text(sort, -1), -2);
-            DUE.same("no fault", x.fault(0), 0);
-            DUE.same("no place", x.fault(1), -1);
-            DUE.same("what is not read stays", x.end(1), 1);
-            DUE.same("at -2", x.text(sort, -2), -2);
-            DUE.same("at the least", x.text(sort, Integer.MIN_VALUE), -2);
-            DUE.same("at the greatest", x.text(sort, Integer.MAX_VALUE), -2);
+            refused(x, "too many", sort, -1);
+            refused(x, "at -2", sort, -2);
+            refused(x, "at the least", sort, Integer.MIN_VALUE);
+            refused(x, "at the greatest", sort, Integer.MAX_VALUE);
             DUE.same("count stays", x.count(sort), most[sort]);
         }
         for (int sort : new int[] {-1, 3, Integer.MIN_VALUE, Integer.MAX_VALUE}) {
-            DUE.same("no such sort", x.text(sort, -1), -2);
+            CurveShares x = new CurveShares();
+            refused(x, "no such sort", sort, -1);
+            refused(x, "no such sort", sort, 0);
             DUE.same("no such sort", x.count(sort), -2);
+        }
+        CurveShares full = new CurveShares();
+        Due.put(full, ";".repeat(600));
+        full.image(0);
+        DUE.same("a full tape", full.text(1, 0), -2);
+        DUE.same("a full tape is taken", full.feed(0, 0, 0, 0, 0), 20);
+        full.again(0);
+        DUE.same("a full tape again", full.feed(0, 0, 0, 0, 0), -1);
+        DUE.same("a full tape again", full.end(600), 600);
+    }
+
+    /** -2, by which no text is read, an earlier FAULT is gone, and the tape is empty. */
+    private static void refused(CurveShares x, String call, int sort, int at) {
+        for (String text : new String[] {"", "far 1;", "?"}) {
+            Due.tell(x, 0, x.count(0) < 2 ? -1 : 0, "?");
+            DUE.same("a fault", x.fault(0), 1);
+            Due.put(x, text);
+            DUE.same(call, x.text(sort, at), -2);
+            DUE.same(call + ": no fault", x.fault(0), 0);
+            DUE.same(call + ": no place", x.fault(1), -1);
+            DUE.same(call + ": the tape is empty", x.end(1), -1);
+            DUE.same(call + ": the tape begins anew", x.feed(0, 0, 0, 0, 0), 20);
         }
     }
 
