@@ -10,6 +10,9 @@ public final class ImageTest {
         for (int round = 0; round < 60; round++) {
             asked(random);
         }
+        for (int round = 0; round < 100; round++) {
+            turns(random);
+        }
         DUE.end();
     }
 
@@ -91,6 +94,36 @@ public final class ImageTest {
                 DUE.same("call " + what + " seed " + seed, ask(x, what, new Random(seed)), ask(fresh, what, new Random(seed)));
             }
         }
+    }
+
+    /** Two CURVES on which all SUMS FIT are asked in turn; a fresh object must answer each call alike. */
+    private static void turns(Random random) {
+        String[] curves = {"", "prime 3; curve 1 2 0 0 0 1;", "prime 13; curve 1 0 0 1;", "prime 5; curve 1 1 0 1;", "curve 1 0 0 0 0 1;",
+            "prime 11; curve 1 2 0 0 0 1;"};
+        String[] texts = new String[8];
+        for (int k = 0; k < 2; k++) {
+            texts[k] = curves[random.nextInt(curves.length)];
+        }
+        for (int k = 2; k < 5; k++) {
+            texts[k] = "far " + random.nextInt(7) + "; at 0 1 " + random.nextInt(4) + ";" + (random.nextBoolean() ? "at 0 1 -1;" : "");
+        }
+        for (int k = 5; k < 8; k++) {
+            texts[k] = "x " + random.nextInt(5) + " 1; x 0 " + random.nextInt(3) + "; y " + random.nextInt(3) + " 2;";
+        }
+        CurveShares x = told(texts);
+        for (int call = 0; call < 200; call++) {
+            int what = random.nextInt(33);
+            int seed = random.nextInt();
+            DUE.same("in turn, call " + what + " seed " + seed, ask(x, what, new Random(seed)), ask(told(texts), what, new Random(seed)));
+        }
+    }
+
+    private static CurveShares told(String[] texts) {
+        CurveShares x = new CurveShares();
+        for (int k = 0; k < texts.length; k++) {
+            Due.tell(x, k < 2 ? 0 : k < 5 ? 1 : 2, -1, texts[k]);
+        }
+        return x;
     }
 
     private static void tell(CurveShares x, int sort, String[] told, String text, Random random) {
