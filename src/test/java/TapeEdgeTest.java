@@ -33,6 +33,7 @@ public final class TapeEdgeTest {
         struck();
         firstByPlace();
         endsPlace();
+        lastCall();
         DUE.end();
     }
 
@@ -621,5 +622,22 @@ public final class TapeEdgeTest {
         fault(2, "x", 1, 1);
         fault(2, "x 1", 1, 3);
         fault(2, "x 1 1", 1, 5);
+    }
+
+    /** "An object is used for at most 512 calls after it has been made": the 512th answers as one of the first. */
+    private static void lastCall() {
+        CurveShares x = new CurveShares();
+        int calls = 0;
+        while (calls < 508) {
+            DUE.same("feed, call " + calls, x.feed(0x66617220, 0x353b2020, 0x20202020, 0x20202020, 0x20202020), 20);
+            DUE.same("text, call " + calls, x.text(1, calls == 0 ? -1 : 0), 0);
+            DUE.same("image, call " + calls, x.image(calls % 3), true);
+            DUE.same("again, call " + calls, x.again(calls % 3), true);
+            calls += 4;
+        }
+        DUE.same("call 509", x.text(0, -1), 0);
+        DUE.same("call 510", x.room(0, 0, 1), 5);
+        DUE.same("call 511", x.torsion(0, 0), 6);
+        DUE.same("call 512", x.mended(0, 0, 1, 0, 0, 0), -1);
     }
 }
